@@ -324,7 +324,7 @@ public final class ClusterTool {
         }
 
         private boolean has(int i) {
-            return isWithin(i, 0, length - 1);
+            return i >= 0 && i < length;
         }
     }
 
@@ -406,7 +406,7 @@ public final class ClusterTool {
         }
 
         boolean isDown(int place) {
-            return (downs >> place & 1) != 0;
+            return (downs & (1 << place)) != 0;
         }
 
         void turn(int chamber) {
@@ -423,13 +423,13 @@ public final class ClusterTool {
                 return isHomeward(from, to);
             }
             if (to < CHAMBERS) {
-                return (mask >> to & 1) != 0;
+                return (mask & (1 << to)) != 0;
             }
             return to == PASS && (mask & beyond(from)) != 0;
         }
 
         private static boolean isReach(int from, int to) {
-            int both = 1 << from | 1 << to;
+            int both = (1 << from) | (1 << to);
             return (FRONT_REACH & both) == both || (BACK_REACH & both) == both;
         }
 
@@ -458,17 +458,17 @@ public final class ClusterTool {
         private static final int PASS_BIT = 8;
 
         static int with(int code, int place, int route, int stage) {
-            int mark = (place == PASS ? PASS_BIT : 0) | route << 2 | stage;
-            return code | mark << BITS * place;
+            int mark = (place == PASS ? PASS_BIT : 0) | (route << 2) | stage;
+            return code | (mark << (BITS * place));
         }
 
         /** What is in a chamber or the pass, 0 for nothing. */
         static int markAt(int code, int place) {
-            return code >> BITS * place & (place == PASS ? 15 : 7);
+            return (code >> (BITS * place)) & (place == PASS ? 15 : 7);
         }
 
         static int routeIn(int mark) {
-            return mark >> 2 & 1;
+            return (mark >> 2) & 1;
         }
 
         static int stageIn(int mark) {
@@ -476,7 +476,7 @@ public final class ClusterTool {
         }
 
         static int after(int code, int route, int stage, int from, int to) {
-            int lifted = from == LOCK ? code : code ^ markAt(code, from) << BITS * from;
+            int lifted = from == LOCK ? code : code - (markAt(code, from) << (BITS * from));
             if (to == LOCK) {
                 return lifted;
             }
@@ -510,7 +510,7 @@ public final class ClusterTool {
             if (depth >= DEEPEST) {
                 return false;
             }
-            int row = code >> 6 & ROWS - 1;
+            int row = (code >> 6) & (ROWS - 1);
             long bit = 1L << (code & 63);
             if ((known[row] & bit) == 0) {
                 boolean found = searchMoves(ways, code, depth);
