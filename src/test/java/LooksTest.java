@@ -9,6 +9,7 @@ public final class LooksTest {
 
     public static void main(String[] args) {
         oneWaferAllTheWay();
+        oneWaferInEachPlace();
         noSuchPlace();
         noSuchWafer();
         noSuchVisit();
@@ -53,6 +54,25 @@ public final class LooksTest {
         }
         DUE.same("place(1)", x.place(1), 5);
         DUE.same("stage(1)", x.stage(1), 0);
+    }
+
+    private static void oneWaferInEachPlace() {
+        ClusterTool x = new ClusterTool();
+        x.visit(0, 15, 1, 0);
+        int[] wafersIn = {3, 2, 1, 0, 4};
+        for (int wafer = 0; wafer < 5; wafer++) {
+            x.load(0);
+        }
+        int[][] moves = {{0, 4}, {0, 3}, {1, 4}, {1, 2}, {2, 1}, {3, 0}, {4, 4}};
+        for (int[] m : moves) {
+            DUE.same("move(" + m[0] + ", " + m[1] + ")", x.move(m[0], m[1]), 0);
+            x.tick(1);
+        }
+        for (int place = 0; place < 5; place++) {
+            DUE.same("in(" + place + ")", x.in(place), wafersIn[place]);
+            DUE.same("place(" + wafersIn[place] + ")", x.place(wafersIn[place]), place);
+        }
+        DUE.same("all five inside: safe()", x.safe(), true);
     }
 
     private static void noSuchPlace() {

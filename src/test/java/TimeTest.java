@@ -64,6 +64,8 @@ public final class TimeTest {
         DUE.same("over: may(0, 1)", x.may(0, 1), 0);
         DUE.same("over: when(0, 0, true)", x.when(0, 0, true), 3);
         x.tick(4);
+        x.tick(0);
+        x.tick(9);
         DUE.same("long over: left(0)", x.left(0), 0);
         DUE.same("long over: when(0, 0, true)", x.when(0, 0, true), 3);
     }
