@@ -20,7 +20,7 @@ public final class FaceTest {
     }
 
     public static void main(String[] args) throws IllegalAccessException {
-        Due due = new Due();
+        Due due = new Due("FaceTest: ");
         Class<?> face = ClusterTool.class;
         due.same("modifiers of the class", face.getModifiers(), Modifier.PUBLIC | Modifier.FINAL);
         List<String> seen = visibleMembers(face);

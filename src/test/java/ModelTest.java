@@ -1,9 +1,9 @@
-/** Long runs of calls, the same at every start, on the program and on the plain model at once. */
+/** Runs of as many calls as an object is used for, the same at every start, against the plain model. */
 public final class ModelTest {
-    private static final int RUNS = 1200;
-    private static final int CALLS = 500;
+    private static final int RUNS = 4000;
+    private static final int CALLS = 512;
 
-    private final Due due = new Due();
+    private final Due due = new Due("ModelTest: ");
     private ClusterTool tool;
     private PlainModel model;
     private long seed;
@@ -29,19 +29,18 @@ public final class ModelTest {
         seed = number;
         tool = new ClusterTool();
         model = new PlainModel();
-        where = "run " + number + ": ";
         int visits = pick(7);
         boolean narrow = pick(3) > 0;
-        for (int i = 0; i < visits; i++) {
-            visit(narrow);
+        for (int call = 1; call <= CALLS && !due.isWrong(); call++) {
+            where = "run " + number + ", call " + call + ": ";
+            if (call <= visits) {
+                visit(narrow);
+            } else if (pick(5) < 3) {
+                change();
+            } else {
+                look();
+            }
         }
-        int calls = 7 + pick(CALLS);
-        for (int i = 0; i < calls && !due.isWrong(); i++) {
-            where = "run " + number + ", call " + i + ": ";
-            change();
-            look();
-        }
-        lookAtAll();
     }
 
     /** Masks with one chamber or two bring the tool to where moves are unsafe. */
@@ -87,36 +86,35 @@ public final class ModelTest {
     private void look() {
         int wafer = someWafer();
         int place = pick(8) - 1;
-        int i = pick(5) - 1;
-        due.same(where + "next()", tool.next(), model.next());
-        due.same(where + "safe()", tool.safe(), model.safe());
-        due.same(where + "may(" + wafer + ", " + place + ")", tool.may(wafer, place), model.may(wafer, place));
-        due.same(where + "in(" + place + ")", tool.in(place), model.in(place));
-        due.same(where + "count(" + place + ")", tool.count(place), model.count(place));
-        lookAt(wafer, i);
+        int kind = pick(9);
+        if (kind < 2) {
+            due.same(where + "next()", tool.next(), model.next());
+        } else if (kind < 3) {
+            due.same(where + "safe()", tool.safe(), model.safe());
+        } else if (kind < 5) {
+            due.same(where + "may(" + wafer + ", " + place + ")", tool.may(wafer, place), model.may(wafer, place));
+        } else if (kind < 6) {
+            due.same(where + "in(" + place + ")", tool.in(place), model.in(place));
+        } else if (kind < 7) {
+            due.same(where + "count(" + place + ")", tool.count(place), model.count(place));
+        } else {
+            lookAt(wafer, pick(5) - 1);
+        }
     }
 
     private void lookAt(int wafer, int i) {
         String of = "(" + wafer + ")";
         String ofVisit = "(" + wafer + ", " + i;
-        due.same(where + "place" + of, tool.place(wafer), model.place(wafer));
-        due.same(where + "stage" + of, tool.stage(wafer), model.stage(wafer));
-        due.same(where + "left" + of, tool.left(wafer), model.left(wafer));
-        due.same(where + "stay" + of, tool.stay(wafer), model.stay(wafer));
-        due.same(where + "visited" + ofVisit + ")", tool.visited(wafer, i), model.visited(wafer, i));
-        due.same(where + "when" + ofVisit + ", false)", tool.when(wafer, i, false), model.when(wafer, i, false));
-        due.same(where + "when" + ofVisit + ", true)", tool.when(wafer, i, true), model.when(wafer, i, true));
-    }
-
-    private void lookAtAll() {
-        for (int wafer = -2; wafer < 27; wafer++) {
-            for (int i = -1; i < 5; i++) {
-                lookAt(wafer, i);
-            }
-        }
-        for (int what = -2; what < 8; what++) {
-            due.same(where + "count(" + what + ")", tool.count(what), model.count(what));
-            due.same(where + "in(" + what + ")", tool.in(what), model.in(what));
+        switch (pick(7)) {
+            case 0 -> due.same(where + "place" + of, tool.place(wafer), model.place(wafer));
+            case 1 -> due.same(where + "stage" + of, tool.stage(wafer), model.stage(wafer));
+            case 2 -> due.same(where + "left" + of, tool.left(wafer), model.left(wafer));
+            case 3 -> due.same(where + "stay" + of, tool.stay(wafer), model.stay(wafer));
+            case 4 -> due.same(where + "visited" + ofVisit + ")", tool.visited(wafer, i), model.visited(wafer, i));
+            case 5 -> due.same(where + "when" + ofVisit + ", false)",
+                    tool.when(wafer, i, false), model.when(wafer, i, false));
+            default -> due.same(where + "when" + ofVisit + ", true)",
+                    tool.when(wafer, i, true), model.when(wafer, i, true));
         }
     }
 }
