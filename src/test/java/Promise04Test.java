@@ -111,6 +111,35 @@ public final class Promise04Test {
         }
     }
 
+    @Sentence("(for a wafer in the lock or in 0, 1: chamber 2 or 3; in 2, 3: chamber 0 or 1)")
+    static void toThePassForTheOtherSideAlone(Due due) {
+        for (int one = 0; one < 4; one++) {
+            int mask = 1 << one;
+            int forBack = one >= 2 ? 0 : ASTRAY;
+            int forFront = one < 2 ? 0 : ASTRAY;
+            due.same("from the lock for " + one, Tools.inLock(mask).may(0, 4), forBack);
+            due.same("from 0 for " + one, Tools.between(due, 0, mask).may(0, 4), forBack);
+            due.same("from 1 for " + one, Tools.between(due, 1, mask).may(0, 4), forBack);
+            due.same("from 2 for " + one, Tools.between(due, 2, mask).may(0, 4), forFront);
+            due.same("from 3 for " + one, Tools.between(due, 3, mask).may(0, 4), forFront);
+        }
+    }
+
+    /** A mask of all chambers leaves nothing but the robots' reach to keep a wafer from one of them. */
+    @Sentence("The FRONT robot reaches 0, 1, 4 and 5, the BACK robot 2, 3 and 4.")
+    static void chambersInReach(Due due) {
+        for (int chamber = 0; chamber < 4; chamber++) {
+            boolean back = chamber >= 2;
+            int front = back ? ASTRAY : 0;
+            Tools.ways(due, "from " + chamber, Tools.between(due, chamber, 15), 0, front, front,
+                    back ? 0 : ASTRAY, back ? 0 : ASTRAY, 0, ASTRAY);
+        }
+        Tools.ways(due, "from the lock", Tools.inLock(15), 0, 0, 0, ASTRAY, ASTRAY, 0, ASTRAY);
+        ClusterTool x = Tools.inLock(15);
+        Tools.step(due, x, 0, 4);
+        Tools.ways(due, "from the pass", x, 0, 0, 0, 0, 0, ASTRAY, ASTRAY);
+    }
+
     @Sentence("Without any: to the lock; from 2 and 3 to the pass.")
     static void waysWithoutVisitsLeft(Due due) {
         for (int chamber = 0; chamber < 4; chamber++) {

@@ -137,6 +137,26 @@ public final class Promise05Test {
         due.same("count(3)", x.count(3), 2);
     }
 
+    /** Every move is tried at every tick, and wherever a wafer is, it is the one that in() tells. */
+    @Sentence("In a chamber and in the pass there is at most one wafer, in the lock there are as many as one likes.")
+    static void atMostOneWaferInAPlace(Due due) {
+        ClusterTool x = Tools.routes(Tools.masks(15, 15), Tools.masks());
+        Tools.load(x, 0, 0, 0, 0, 0, 0);
+        for (int tick = 0; tick < 8; tick++) {
+            for (int i = 0; i < 36; i++) {
+                x.move(i % 6, (i / 6 + tick) % 6);
+            }
+            for (int wafer = 0; wafer < 6; wafer++) {
+                int place = x.place(wafer);
+                due.same("in(" + place + ")", x.in(place), place == 5 ? Tools.NONE : wafer);
+            }
+            x.tick(1);
+        }
+        ClusterTool y = Tools.inLock(1);
+        Tools.load(y, 0, 1, 1);
+        due.same("four in the lock: place(0)", y.place(0) + y.place(1) + y.place(2) + y.place(3), 4 * 5);
+    }
+
     @Sentence("Answers as may().")
     static void answersAsMay(Due due) {
         ClusterTool x = Tools.routes(Tools.masks(7, 9), Tools.masks(12, 3));

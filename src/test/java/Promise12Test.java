@@ -29,6 +29,15 @@ public final class Promise12Test {
         }
     }
 
+    @Sentence("It is in the lock at first")
+    static void inTheLockAtFirst(Due due) {
+        ClusterTool x = Tools.routes(Tools.masks(1), Tools.masks());
+        for (int wafer = 0; wafer < 25; wafer++) {
+            x.load(wafer % 2);
+            due.same("place(" + wafer + ")", x.place(wafer), 5);
+        }
+    }
+
     @Sentence("NONE: no such wafer.")
     static void noSuchWafer(Due due) {
         due.none("no wafers: place(0)", new ClusterTool().place(0));
