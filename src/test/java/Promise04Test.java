@@ -183,6 +183,61 @@ public final class Promise04Test {
         }
     }
 
+    /** A way to the pass asks for a chamber in the mask, down or up: what is due is UNSAFE or 0, not ASTRAY. */
+    @Sentence("from a chamber or the lock to the pass when the mask has a chamber that the other robot alone reaches "
+            + "(for a wafer in the lock or in 0, 1: chamber 2 or 3; in 2, 3: chamber 0 or 1)")
+    static void downChambersLeaveTheWayToThePass(Due due) {
+        for (int chamber = 0; chamber < 4; chamber++) {
+            for (int other = 0; other < 4; other++) {
+                boolean acrossThePass = chamber < 2 != other < 2;
+                ClusterTool alone = Tools.between(due, chamber, 1 << other);
+                ClusterTool both = Tools.between(due, chamber, 1 << other | 1 << chamber);
+                alone.down(other, true);
+                both.down(other, true);
+                String where = "from " + chamber + ", " + other + " is down: may(0, 4)";
+                if (acrossThePass) {
+                    due.same("for it alone " + where, alone.may(0, 4), UNSAFE);
+                    due.same("for it or the same again " + where, both.may(0, 4), 0);
+                } else {
+                    due.same("for it alone " + where, alone.may(0, 4), ASTRAY);
+                    due.same("for it or the same again " + where, both.may(0, 4), ASTRAY);
+                }
+            }
+        }
+        ClusterTool alone = Tools.inLock(4);
+        alone.down(2, true);
+        due.same("from the lock for 2 alone, which is down: may(0, 4)", alone.may(0, 4), UNSAFE);
+        ClusterTool both = Tools.inLock(5);
+        both.down(2, true);
+        due.same("from the lock for 0 or 2, which is down: may(0, 4)", both.may(0, 4), 0);
+    }
+
+    /** Down comes before taken, as there is no way, and after unready. */
+    @Sentence("Chambers may be DOWN: no way leads into one or out of one, and nothing goes on there: "
+            + "no time of a visit or limit passes in it.")
+    static void downAmongTheReasons(Due due) {
+        for (int chamber = 0; chamber < 4; chamber++) {
+            int side = chamber < 2 ? 3 : 12;
+            ClusterTool x = Tools.with(Tools.visit(0, 1 << chamber, 2, 0), Tools.visit(0, side, 1, 0),
+                    Tools.visit(1, side, 1, 0));
+            Tools.load(x, 0, 1);
+            Tools.bring(due, x, 0, chamber);
+            if (chamber >= 2) {
+                x.down(chamber, true);
+                Tools.step(due, x, 1, 4);
+            }
+            x.down(chamber, true);
+            allUnready(due, "its visit goes on in " + chamber, x, 0);
+            due.same("taken, and down: may(1, " + chamber + ")", x.may(1, chamber), ASTRAY);
+            due.same("the other one: may(1, " + (chamber ^ 1) + ")", x.may(1, chamber ^ 1), 0);
+            x.down(chamber, false);
+            due.same("taken, and up: may(1, " + chamber + ")", x.may(1, chamber), TAKEN);
+            x.tick(1);
+            x.down(chamber, true);
+            Tools.ways(due, "ready in " + chamber, x, 0, ASTRAY, ASTRAY, ASTRAY, ASTRAY, ASTRAY, ASTRAY);
+        }
+    }
+
     @Sentence("TAKEN there is a wafer in that place (another one)")
     static void taken(Due due) {
         for (int chamber = 0; chamber < 4; chamber++) {
@@ -234,6 +289,30 @@ public final class Promise04Test {
         due.same("it has left 0: may(0, 5)", x.may(0, 5), 0);
         Tools.step(due, x, 0, 5);
         due.same("it is out of the way: may(1, 1)", x.may(1, 1), 0);
+    }
+
+    /**
+     * Wafer 2 waits in the pass for chambers that went down. No other move lets it out, so that none is made, not
+     * even one that takes a wafer home, until one of these chambers is up.
+     */
+    @Sentence("UNSAFE the situation after it could not be emptied")
+    static void allIsUnsafeWhereOneIsStuck(Due due) {
+        ClusterTool x = Tools.routes(Tools.masks(1), Tools.masks(12));
+        Tools.load(x, 0, 0, 1);
+        Tools.step(due, x, 0, 0);
+        Tools.step(due, x, 2, 4);
+        x.down(2, true);
+        due.same("3 is up: may(0, 5)", x.may(0, 5), 0);
+        x.down(3, true);
+        due.same("home: may(0, 5)", x.may(0, 5), UNSAFE);
+        due.same("taken: may(1, 0)", x.may(1, 0), TAKEN);
+        due.same("astray: may(2, 2)", x.may(2, 2), ASTRAY);
+        x.down(0, true);
+        due.same("no way out: may(0, 5)", x.may(0, 5), ASTRAY);
+        x.down(0, false);
+        x.down(3, false);
+        due.same("3 is up again: may(0, 5)", x.may(0, 5), 0);
+        due.same("3 is up again: may(2, 3)", x.may(2, 3), 0);
     }
 
     /** Route 0 visits chamber 0 and then 1, route 1 the other way round. */
